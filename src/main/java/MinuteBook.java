@@ -36,6 +36,10 @@ public final class MinuteBook {
     private static final int WHY_NO_SUCH = 1;
     private static final int WHY_BAULKS = 2;
 
+    /* By the stroke told: how likely a minute passes without one, in lowest terms; so its powers are, too. */
+    private static final int[] PASSES_ABOVE = {1, 9, 4, 7, 3, 1, 2, 3, 1, 1, 0};
+    private static final int[] PASSES_BELOW = {1, 10, 5, 10, 5, 2, 5, 10, 5, 10, 1};
+
     /* A state is TONE, HEAT and who spoke last in one number, so that rows of states can be searched. */
     private static final int NOBODY = MOST_MEMBERS;
     private static final int LASTS = MOST_MEMBERS + 1;
@@ -68,6 +72,7 @@ public final class MinuteBook {
     private static final int NOT = -13;
     private static final int AND = -14;
     private static final int OR = -15;
+    private static final int NOTHING = -16;
     private static final int KEPT_WITHIN = 1000000;
     private static final int STACK_PLACES = 64;
 
@@ -103,7 +108,7 @@ public final class MinuteBook {
         for (int i = 0; i < IMAGES; i++) {
             images[i] = new Image();
         }
-        reader = new Reader();
+        reader = new Reader(tape, spare);
         scale = new Scale();
         moves = new Moves(told, scale);
         ways = new Ways(moves);
@@ -139,7 +144,7 @@ public final class MinuteBook {
             return CANNOT_BE;
         }
         taped = 0;
-        reader.readText(tape, n, spare);
+        reader.readText(n, spare);
         if (reader.fault != 0) {
             return TEXT_FAULT - reader.fault;
         }
@@ -368,8 +373,11 @@ public final class MinuteBook {
         if (!isTone(tone) || n < 0 || n > MOST_ROWS) {
             return CANNOT_BE;
         }
+        layers.tellSize(n);
+        for (int i = 0; i < n; i++) {
+            layers.tell(i, NONE);
+        }
         moves.heed(sitting.marks);
-        layers.tellLost(n);
         return layers.countRows(sitting.state, tone);
     }
 
@@ -502,7 +510,7 @@ public final class MinuteBook {
         if (refused != 0) {
             return refused;
         }
-        return weighErrata(tone) == NONE ? NONE : layers.rightMinute(sitting.state, i);
+        return weighErrata(tone) == NONE ? NONE : layers.rightMinute(i);
     }
 
     public int back(int tray, int tone) {
@@ -510,7 +518,7 @@ public final class MinuteBook {
         if (refused != 0) {
             return refused;
         }
-        return weighErrata(tone) == NONE ? NONE : layers.longestKept(sitting.state);
+        return weighErrata(tone) == NONE ? NONE : layers.longestKept();
     }
 
     private int weighErrata(int tone) {
@@ -654,7 +662,7 @@ public final class MinuteBook {
     }
 
     private int forcedBy(int tone) {
-        exploreAll();
+        moves.heed(sitting.marks);
         return game.forcedWithin(sitting.state, tone);
     }
 
@@ -672,23 +680,12 @@ public final class MinuteBook {
         if (length == NONE) {
             return NONE;
         }
-        int shared = commonDivisor(CERTAIN - told.stroke, CERTAIN);
-        int part = what == 0 ? CERTAIN - told.stroke : CERTAIN;
+        int part = what == 0 ? PASSES_ABOVE[told.stroke] : PASSES_BELOW[told.stroke];
         long power = 1;
         for (int i = 1; i < length; i++) {
-            power *= part / shared;
+            power *= part;
         }
         return power;
-    }
-
-    private static int commonDivisor(int a, int b) {
-        int divisor = 1;
-        for (int d = 2; d <= CERTAIN; d++) {
-            if (a % d == 0 && b % d == 0) {
-                divisor = d;
-            }
-        }
-        return divisor;
     }
 
     public int likeliest() {
@@ -850,14 +847,13 @@ public final class MinuteBook {
         if (numbers.size < 1 || numbers.size > most) {
             return TOO_MANY;
         }
-        layers.tellLost(numbers.size);
+        layers.tellSize(numbers.size);
         for (int i = 0; i < numbers.size; i++) {
             long v = numbers.at(i);
-            if (isMinute(v)) {
-                layers.tell(i, (int) v);
-            } else if (!mayBeLost || v != NONE) {
+            if (!isMinute(v) && !(mayBeLost && v == NONE)) {
                 return CANNOT_BE;
             }
+            layers.tell(i, (int) v);
         }
         return 0;
     }
@@ -1090,7 +1086,7 @@ public final class MinuteBook {
         }
     }
 
-    /** Reads a text into a book, token by token, up to its first fault. */
+    /** Reads a text into a book, up to its first fault: its tokens are laid out first, then each is taken in its turn. */
     private static final class Reader {
         static final int NO_TOKEN = 1;
         static final int CANNOT_STAND = 2;
@@ -1099,7 +1095,7 @@ public final class MinuteBook {
         static final int MOST_DIGITS = 3;
         static final int MOST_WITHIN = 6;
         static final String SIGNS = ";:+-*()[]=<>";
-        /* Each word is the token FIRST_WORD + its number here; signs are their own numbers, below that. */
+        /* Kinds of tokens: a sign is its own number, a word FIRST_WORD and its number here, N is FIRST_NUMBER and N. */
         static final String WORDS = "book tone heat member mark saying up down warm cool would closes stroke or and not last who ";
         static final int FIRST_WORD = 128;
         static final int BOOK = 128;
@@ -1121,35 +1117,166 @@ public final class MinuteBook {
         static final int LAST = 144;
         static final int WHO = 145;
         static final int OTHER_WORD = 200;
-        static final int NUMBER = 201;
-        static final int END = 202;
+        static final int END = 201;
+        static final int BAD = 202;
         /* Behind a fault: it stands nowhere, so that all that still reads comes to its end. */
         static final int STOPPED = 203;
+        static final int FIRST_NUMBER = 1000;
 
         int fault;
         int faultPlace = NONE;
-        private byte[] text = new byte[0];
-        private int length;
-        private int next;
+        private final byte[] text;
+        private final int[] kinds = new int[TAPE_PLACES + 1];
+        private final int[] places = new int[TAPE_PLACES + 1];
+        private int tokens;
+        private int at;
         private int token;
-        private int place;
-        private int value;
         private boolean ofMembers;
-        private Book into = new Book();
+        private Book into;
 
-        void readText(byte[] bytes, int n, Book book) {
-            text = bytes;
-            length = Math.min(n, bytes.length);
-            next = 0;
+        Reader(byte[] text, Book into) {
+            this.text = text;
+            this.into = into;
+        }
+
+        void readText(int length, Book book) {
             fault = 0;
             faultPlace = NONE;
             into = book;
             into.clear();
-            step();
+            layTokens(Math.min(length, text.length));
+            at = 0;
+            token = kinds[0];
             readFirstLine();
-            for (int i = 0; i < length && token != END && token != STOPPED; i++) {
+            for (int i = 0; i < tokens && token != END && token != STOPPED; i++) {
                 readLine();
             }
+        }
+
+        /** Lays out all tokens up to the end, or up to one that is bad; either is the last one laid out. */
+        private void layTokens(int length) {
+            tokens = 0;
+            int kind = OTHER_WORD;
+            int next = 0;
+            for (int i = 0; i <= length && kind != END && kind != BAD; i++) {
+                while (next < length && (text[next] == 10 || text[next] == 32)) {
+                    next++;
+                }
+                int first = next < length ? text[next] : 0;
+                int end = next;
+                if (next >= length) {
+                    kind = END;
+                } else if (isLetter(first)) {
+                    end = endOfWord(next, length);
+                    kind = kindOfWord(next, end);
+                } else if (isDigit(first)) {
+                    end = endOfDigits(next, length);
+                    kind = kindOfDigits(next, end);
+                } else {
+                    kind = first > 0 && SIGNS.indexOf((char) first) >= 0 ? first : BAD;
+                    end++;
+                }
+                kinds[tokens] = kind;
+                places[tokens] = next;
+                tokens++;
+                next = end;
+            }
+        }
+
+        private int endOfWord(int begin, int length) {
+            int end = begin;
+            while (end < length && isLetter(text[end])) {
+                end++;
+            }
+            return end;
+        }
+
+        private int kindOfWord(int begin, int end) {
+            int number = 0;
+            int from = 0;
+            for (int i = 0; i < WORDS.length(); i++) {
+                if (WORDS.charAt(i) == ' ') {
+                    if (i - from == end - begin && isWord(from, begin, end)) {
+                        return FIRST_WORD + number;
+                    }
+                    number++;
+                    from = i + 1;
+                }
+            }
+            return OTHER_WORD;
+        }
+
+        private boolean isWord(int from, int begin, int end) {
+            for (int i = begin; i < end; i++) {
+                if (text[i] != WORDS.charAt(from + i - begin)) {
+                    return false;
+                }
+            }
+            return true;
+        }
+
+        private int endOfDigits(int begin, int length) {
+            int end = begin;
+            while (end < length && isDigit(text[end])) {
+                end++;
+            }
+            return end;
+        }
+
+        private int kindOfDigits(int begin, int end) {
+            if (end - begin > MOST_DIGITS) {
+                return BAD;
+            }
+            int value = 0;
+            for (int i = begin; i < end; i++) {
+                value = value * 10 + text[i] - '0';
+            }
+            return FIRST_NUMBER + value;
+        }
+
+        private static boolean isLetter(int c) {
+            return c >= 'a' && c <= 'z';
+        }
+
+        private static boolean isDigit(int c) {
+            return c >= '0' && c <= '9';
+        }
+
+        private void step() {
+            if (token != STOPPED && at + 1 < tokens) {
+                at++;
+                token = kinds[at];
+            }
+        }
+
+        private void fail(int kind) {
+            if (fault == 0) {
+                fault = token == BAD ? NO_TOKEN : kind;
+                faultPlace = places[at];
+            }
+            token = STOPPED;
+        }
+
+        private void take(int wanted) {
+            if (token == wanted) {
+                step();
+            } else {
+                fail(CANNOT_STAND);
+            }
+        }
+
+        private int takeNumber(int most) {
+            int value = token - FIRST_NUMBER;
+            if (value < 0) {
+                fail(CANNOT_STAND);
+                return 0;
+            }
+            if (value > most) {
+                fail(OUT_OF_BOUNDS);
+                return 0;
+            }
+            step();
+            return value;
         }
 
         private void readFirstLine() {
@@ -1202,7 +1329,7 @@ public final class MinuteBook {
             }
             into.members++;
             step();
-            for (int i = 0; i < length && token == MARK; i++) {
+            for (int i = 0; i < tokens && token == MARK; i++) {
                 step();
                 into.marks[m] = takeNumber(HIGHEST);
             }
@@ -1216,7 +1343,7 @@ public final class MinuteBook {
             }
             into.sayings++;
             step();
-            for (int i = 0; i < length && token >= UP && token <= COOL; i++) {
+            for (int i = 0; i < tokens && token >= UP && token <= COOL; i++) {
                 int turn = token;
                 step();
                 int by = takeNumber(HIGHEST);
@@ -1238,7 +1365,7 @@ public final class MinuteBook {
         /** Within: how many of not [ ( stand around it. */
         private void readTruth(int within) {
             readBoth(within);
-            for (int i = 0; i < length && token == OR_WORD; i++) {
+            for (int i = 0; i < tokens && token == OR_WORD; i++) {
                 step();
                 readBoth(within);
                 into.addCode(OR);
@@ -1247,7 +1374,7 @@ public final class MinuteBook {
 
         private void readBoth(int within) {
             readUnit(within);
-            for (int i = 0; i < length && token == AND_WORD; i++) {
+            for (int i = 0; i < tokens && token == AND_WORD; i++) {
                 step();
                 readUnit(within);
                 into.addCode(AND);
@@ -1293,7 +1420,7 @@ public final class MinuteBook {
 
         private void readSum(int within) {
             readTerm(within);
-            for (int i = 0; i < length && (token == '+' || token == '-'); i++) {
+            for (int i = 0; i < tokens && (token == '+' || token == '-'); i++) {
                 int sign = token;
                 step();
                 readTerm(within);
@@ -1303,7 +1430,7 @@ public final class MinuteBook {
 
         private void readTerm(int within) {
             readAtom(within);
-            for (int i = 0; i < length && token == '*'; i++) {
+            for (int i = 0; i < tokens && token == '*'; i++) {
                 step();
                 readAtom(within);
                 into.addCode(TIMES);
@@ -1318,8 +1445,8 @@ public final class MinuteBook {
                 }
                 return;
             }
-            int code = token == NUMBER ? value : askedBy(token);
-            if (code == NOT) {
+            int code = token >= FIRST_NUMBER ? token - FIRST_NUMBER : askedBy(token);
+            if (code == NOTHING) {
                 fail(CANNOT_STAND);
                 return;
             }
@@ -1327,7 +1454,7 @@ public final class MinuteBook {
             step();
         }
 
-        /** The code of a word that asks something in this law; NOT, if it doesn't. */
+        /** The code of a word that asks something in this law; NOTHING, if it doesn't. */
         private int askedBy(int word) {
             switch (word) {
                 case TONE:
@@ -1337,119 +1464,14 @@ public final class MinuteBook {
                 case LAST:
                     return ASK_LAST;
                 case WHO:
-                    return ofMembers ? ASK_WHO : NOT;
+                    return ofMembers ? ASK_WHO : NOTHING;
                 case MARK:
-                    return ofMembers ? ASK_MARK : NOT;
+                    return ofMembers ? ASK_MARK : NOTHING;
                 case SAYING:
-                    return ofMembers ? ASK_SAYING : NOT;
+                    return ofMembers ? ASK_SAYING : NOTHING;
                 default:
-                    return NOT;
+                    return NOTHING;
             }
-        }
-
-        private void take(int wanted) {
-            if (token == wanted) {
-                step();
-            } else {
-                fail(CANNOT_STAND);
-            }
-        }
-
-        private int takeNumber(int most) {
-            if (token != NUMBER) {
-                fail(CANNOT_STAND);
-                return 0;
-            }
-            if (value > most) {
-                fail(OUT_OF_BOUNDS);
-                return 0;
-            }
-            int taken = value;
-            step();
-            return taken;
-        }
-
-        private void fail(int kind) {
-            if (fault == 0) {
-                fault = kind;
-                faultPlace = place;
-            }
-            token = STOPPED;
-        }
-
-        private int byteAt(int i) {
-            return i >= 0 && i < length && i < text.length ? text[i] & 255 : 0;
-        }
-
-        /** Goes on to the next token. */
-        private void step() {
-            if (fault != 0) {
-                return;
-            }
-            while (next < length && (byteAt(next) == 10 || byteAt(next) == 32)) {
-                next++;
-            }
-            place = next;
-            int first = byteAt(next);
-            if (next >= length) {
-                token = END;
-            } else if (isLetter(first)) {
-                readWord();
-            } else if (isDigit(first)) {
-                readDigits();
-            } else if (SIGNS.indexOf((char) first) >= 0) {
-                token = first;
-                next++;
-            } else {
-                fail(NO_TOKEN);
-            }
-        }
-
-        private void readWord() {
-            while (next < length && isLetter(byteAt(next))) {
-                next++;
-            }
-            token = OTHER_WORD;
-            int number = 0;
-            int begin = 0;
-            for (int i = 0; i < WORDS.length(); i++) {
-                if (WORDS.charAt(i) == ' ') {
-                    if (isWordFrom(begin, i - begin)) {
-                        token = FIRST_WORD + number;
-                    }
-                    number++;
-                    begin = i + 1;
-                }
-            }
-        }
-
-        private boolean isWordFrom(int begin, int letters) {
-            boolean like = letters == next - place;
-            for (int i = 0; i < letters && like; i++) {
-                like = WORDS.charAt(begin + i) == byteAt(place + i);
-            }
-            return like;
-        }
-
-        private void readDigits() {
-            value = 0;
-            while (next < length && isDigit(byteAt(next))) {
-                value = (value * 10 + byteAt(next) - '0') % 10000;
-                next++;
-            }
-            if (next - place > MOST_DIGITS) {
-                fail(NO_TOKEN);
-            } else {
-                token = NUMBER;
-            }
-        }
-
-        private static boolean isLetter(int c) {
-            return c >= 'a' && c <= 'z';
-        }
-
-        private static boolean isDigit(int c) {
-            return c >= '0' && c <= '9';
         }
     }
 
@@ -1502,13 +1524,17 @@ public final class MinuteBook {
         }
 
         private static int joined(int op, int a, int b) {
+            long v;
             switch (op) {
                 case PLUS:
-                    return keptWithin((long) a + b);
+                    v = a + b;
+                    break;
                 case MINUS:
-                    return keptWithin((long) a - b);
+                    v = a - b;
+                    break;
                 case TIMES:
-                    return keptWithin((long) a * b);
+                    v = (long) a * b;
+                    break;
                 case LIKE:
                     return a == b ? 1 : 0;
                 case LESS:
@@ -1520,10 +1546,7 @@ public final class MinuteBook {
                 default:
                     return a | b;
             }
-        }
-
-        private static int keptWithin(long v) {
-            return (int) Math.max(-KEPT_WITHIN, Math.min(KEPT_WITHIN, v));
+            return v > KEPT_WITHIN ? KEPT_WITHIN : v < -KEPT_WITHIN ? -KEPT_WITHIN : (int) v;
         }
     }
 
@@ -1542,6 +1565,11 @@ public final class MinuteBook {
         /* The state behind a saying in a mood, the speaker's number to be added. */
         final int[] turned = new int[MOST_SAYINGS * MOODS];
         boolean asksLast;
+        /* How often what was worked out was forgotten: by it a search knows whether its answer still stands. */
+        int version;
+        /* What branch() laid out. */
+        final int[] branchMinutes = new int[MOST_MEMBERS * MOST_SAYINGS];
+        final int[] branchStates = new int[MOST_MEMBERS * MOST_SAYINGS];
 
         Moves(Book first, Scale scale) {
             this.book = first;
@@ -1563,6 +1591,7 @@ public final class MinuteBook {
             }
             Arrays.fill(minutes, 0L);
             Arrays.fill(closing, (byte) UNKNOWN);
+            version++;
         }
 
         private static int within(int v) {
@@ -1578,6 +1607,7 @@ public final class MinuteBook {
             }
             if (!like) {
                 Arrays.fill(minutes, 0L);
+                version++;
             }
         }
 
@@ -1585,21 +1615,17 @@ public final class MinuteBook {
             // Where the law doesn't ask who spoke last, one answer serves all states of a mood.
             int key = asksLast ? state : state - lastOf(state);
             if (minutes[key] == 0) {
-                minutes[key] = KNOWN | workOut(key);
-            }
-            return minutes[key] & ALL_MINUTES;
-        }
-
-        private long workOut(int state) {
-            long bits = 0;
-            for (int m = 0; m < book.members; m++) {
-                for (int s = 0; s < book.sayings; s++) {
-                    if (scale.wouldSay(book, state, m, marks[m], s)) {
-                        bits |= minuteBit(m, s);
+                long bits = KNOWN;
+                for (int m = 0; m < book.members; m++) {
+                    for (int s = 0; s < book.sayings; s++) {
+                        if (scale.wouldSay(book, key, m, marks[m], s)) {
+                            bits |= minuteBit(m, s);
+                        }
                     }
                 }
+                minutes[key] = bits;
             }
-            return bits;
+            return minutes[key] & ALL_MINUTES;
         }
 
         boolean closes(int state) {
@@ -1615,6 +1641,23 @@ public final class MinuteBook {
 
         int behind(int state, int m, int s) {
             return turned[s * MOODS + state / LASTS] + m;
+        }
+
+        /** Lays out the minutes of a set and the states behind them, the first minute first: how many. */
+        int branch(int state, long set) {
+            int n = 0;
+            int mood = state / LASTS;
+            for (int m = 0; m < MOST_MEMBERS; m++) {
+                int sayings = sayingsOf(set, m);
+                for (int s = 0; s < MOST_SAYINGS && sayings >>> s != 0; s++) {
+                    if ((sayings >>> s & 1) != 0) {
+                        branchMinutes[n] = 10 * m + s;
+                        branchStates[n] = turned[s * MOODS + mood] + m;
+                        n++;
+                    }
+                }
+            }
+            return n;
         }
     }
 
@@ -1633,6 +1676,10 @@ public final class MinuteBook {
         final long[] reached = new long[STATES];
         int found = NONE;
         int length = NONE;
+        /* What was searched for. */
+        private int version = NONE;
+        private int start;
+        private int tone;
         private long use;
         private int heatCap;
         private int wanted;
@@ -1642,10 +1689,22 @@ public final class MinuteBook {
         }
 
         /** How many minutes lead to an end, by minutes of a set, no hotter than a cap, so that all wanted speak; NONE. */
-        int find(int start, int tone, long allowed, int cap, int speakers) {
+        int find(int from, int toTone, long allowed, int cap, int speakers) {
+            if (version == moves.version && start == from && tone == toTone && use == allowed
+                    && heatCap == cap && wanted == speakers) {
+                return length;
+            }
+            version = moves.version;
+            start = from;
+            tone = toTone;
             use = allowed;
             heatCap = cap;
             wanted = speakers;
+            goThrough();
+            return length;
+        }
+
+        private void goThrough() {
             makeRoom();
             size = 0;
             found = NONE;
@@ -1661,7 +1720,6 @@ public final class MinuteBook {
                 reached[stateAt(i)] = 0;
             }
             length = found == NONE ? NONE : lengthTo(found);
-            return length;
         }
 
         /** A wanted set takes more nodes: behind the first one, the last speaker is one of the set. */
@@ -1684,17 +1742,11 @@ public final class MinuteBook {
         private void spread(int from) {
             int state = stateAt(from);
             int spoken = spokenAt(from);
-            long minutes = moves.minutesAt(state) & use;
-            for (int m = 0; m < MOST_MEMBERS; m++) {
-                int spokenThen = spoken | 1 << m & wanted;
-                int sayings = sayingsOf(minutes, m);
-                for (int s = 0; s < MOST_SAYINGS && sayings >>> s != 0; s++) {
-                    if ((sayings >>> s & 1) != 0) {
-                        int behind = moves.behind(state, m, s);
-                        if (heatOf(behind) <= heatCap) {
-                            reach(behind, spokenThen, from);
-                        }
-                    }
+            int n = moves.branch(state, moves.minutesAt(state) & use);
+            for (int k = 0; k < n; k++) {
+                int behind = moves.branchStates[k];
+                if (heatCap == HIGHEST || heatOf(behind) <= heatCap) {
+                    reach(behind, wanted == 0 ? 0 : spoken | 1 << lastOf(behind), from);
                 }
             }
         }
@@ -1713,7 +1765,7 @@ public final class MinuteBook {
 
         int lengthTo(int node) {
             int steps = 0;
-            for (int at = node; at > 0; at = ahead(at)) {
+            for (int at = node; at > 0 && steps < size; at = ahead(at)) {
                 steps++;
             }
             return steps;
@@ -1729,11 +1781,10 @@ public final class MinuteBook {
                 node = ahead(node);
             }
             int state = stateAt(ahead(node));
-            int m = lastOf(stateAt(node));
-            int sayings = sayingsOf(moves.minutesAt(state) & use, m);
-            for (int s = 0; s < MOST_SAYINGS; s++) {
-                if ((sayings >>> s & 1) != 0 && moves.behind(state, m, s) == stateAt(node)) {
-                    return 10 * m + s;
+            int n = moves.branch(state, moves.minutesAt(state) & use);
+            for (int k = 0; k < n; k++) {
+                if (moves.branchStates[k] == stateAt(node)) {
+                    return moves.branchMinutes[k];
                 }
             }
             return NONE;
@@ -1752,6 +1803,7 @@ public final class MinuteBook {
 
     /** Rows of so many minutes, by what was told of each of them, layer by layer of states. */
     private static final class Layers {
+        static final int LAYERS = MOST_TOLD + 1;
         static final byte NOT_REACHED = -1;
         static final byte NEVER = 100;
 
@@ -1759,28 +1811,39 @@ public final class MinuteBook {
         final int[] told = new int[MOST_TOLD];
         int size;
         /* Of each state behind so many minutes: how many of those that follow are others than told, at fewest. */
-        final byte[] others = new byte[(MOST_TOLD + 1) * STATES];
+        final byte[] others = new byte[LAYERS * STATES];
+        /* The states that were reached, layer behind layer, and where each layer begins. */
+        final int[] order = new int[LAYERS * STATES];
+        final int[] begins = new int[LAYERS + 1];
+        /* How many rows lead to a state: all 0 between calls. */
         private long[] rowsTo = new long[STATES];
         private long[] rowsBehind = new long[STATES];
         private boolean strict;
+        /* What was weighed; version NONE: what is told has changed since. */
+        private int version = NONE;
+        private int start;
+        private int tone;
 
         Layers(Moves moves) {
             this.moves = moves;
         }
 
-        void tellLost(int n) {
-            size = Math.max(0, Math.min(n, MOST_TOLD));
-            Arrays.fill(told, NONE);
-        }
-
-        void tell(int i, int minute) {
-            if (i >= 0 && i < size) {
-                told[i] = minute;
+        void tellSize(int n) {
+            if (size != n && n >= 0 && n <= MOST_TOLD) {
+                size = n;
+                version = NONE;
             }
         }
 
-        int firstBaulk(int start) {
-            int state = start;
+        void tell(int i, int minute) {
+            if (i >= 0 && i < size && told[i] != minute) {
+                told[i] = minute;
+                version = NONE;
+            }
+        }
+
+        int firstBaulk(int from) {
+            int state = from;
             for (int i = 0; i < size; i++) {
                 if (!canStay(state, i)) {
                     return i;
@@ -1802,172 +1865,168 @@ public final class MinuteBook {
             return told[i] == NONE ? 0 : minuteBit(told[i] / 10, told[i] % 10);
         }
 
-        /** Minutes that can stand at a place of a row, in a state. */
-        private long minutesFor(int i, int state) {
+        /** Lays out the minutes that can stand at a place of a row, in a state. */
+        private int branchFor(int i, int state) {
             long minutes = moves.minutesAt(state);
-            return strict && told[i] != NONE ? minutes & toldBit(i) : minutes;
+            return moves.branch(state, strict && told[i] != NONE ? minutes & toldBit(i) : minutes);
         }
 
-        long countRows(int start, int tone) {
+        /** How many rows are as told and at an end with a tone. */
+        long countRows(int from, int toTone) {
+            version = NONE;
             strict = true;
-            Arrays.fill(rowsTo, 0L);
-            rowsTo[start] = 1;
+            rowsTo[from] = 1;
+            order[0] = from;
+            begins[0] = 0;
+            begins[1] = 1;
             for (int i = 0; i < size; i++) {
-                Arrays.fill(rowsBehind, 0L);
-                for (int state = 0; state < STATES; state++) {
-                    if (rowsTo[state] != 0) {
-                        spreadRows(i, state);
-                    }
-                }
+                countLayer(i);
                 long[] former = rowsTo;
                 rowsTo = rowsBehind;
                 rowsBehind = former;
             }
             long sum = 0;
-            for (int state = 0; state < STATES; state++) {
-                if (rowsTo[state] != 0 && moves.isEnd(state, tone)) {
-                    sum += rowsTo[state];
+            for (int at = begins[size]; at < begins[size + 1]; at++) {
+                if (moves.isEnd(order[at], toTone)) {
+                    sum += rowsTo[order[at]];
                 }
+                rowsTo[order[at]] = 0;
             }
             return sum;
         }
 
-        private void spreadRows(int i, int state) {
-            long minutes = minutesFor(i, state);
-            for (int m = 0; m < MOST_MEMBERS; m++) {
-                int sayings = sayingsOf(minutes, m);
-                for (int s = 0; s < MOST_SAYINGS && sayings >>> s != 0; s++) {
-                    if ((sayings >>> s & 1) != 0) {
-                        rowsBehind[moves.behind(state, m, s)] += rowsTo[state];
+        private void countLayer(int i) {
+            int end = begins[i + 1];
+            for (int at = begins[i]; at < begins[i + 1]; at++) {
+                int state = order[at];
+                int n = branchFor(i, state);
+                for (int k = 0; k < n; k++) {
+                    int behind = moves.branchStates[k];
+                    if (rowsBehind[behind] == 0) {
+                        order[end] = behind;
+                        end++;
                     }
+                    rowsBehind[behind] += rowsTo[state];
                 }
+                rowsTo[state] = 0;
             }
+            begins[i + 2] = end;
         }
 
-        /** How many minutes of the row that is right are others than told; NONE. If strict, none may be. */
-        int weigh(int start, int tone, boolean asTold) {
-            strict = asTold;
-            Arrays.fill(others, 0, (size + 1) * STATES, NOT_REACHED);
-            others[start] = NEVER;
-            for (int i = 0; i < size; i++) {
-                for (int state = 0; state < STATES; state++) {
-                    if (others[i * STATES + state] != NOT_REACHED) {
-                        reachBehind(i, state);
-                    }
-                }
-            }
-            for (int state = 0; state < STATES; state++) {
-                int at = size * STATES + state;
-                if (others[at] != NOT_REACHED && moves.isEnd(state, tone)) {
-                    others[at] = 0;
-                }
-            }
-            for (int i = size - 1; i >= 0; i--) {
-                for (int state = 0; state < STATES; state++) {
-                    if (others[i * STATES + state] != NOT_REACHED) {
-                        others[i * STATES + state] = fewestFrom(i, state);
-                    }
-                }
+        /** How many minutes of the row that is right are others than told; NONE. As told: none may be. */
+        int weigh(int from, int toTone, boolean asTold) {
+            if (version != moves.version || start != from || tone != toTone || strict != asTold) {
+                version = moves.version;
+                start = from;
+                tone = toTone;
+                strict = asTold;
+                weighAnew();
             }
             return others[start] == NEVER ? NONE : others[start];
         }
 
-        private void reachBehind(int i, int state) {
-            long minutes = minutesFor(i, state);
-            for (int m = 0; m < MOST_MEMBERS; m++) {
-                int sayings = sayingsOf(minutes, m);
-                for (int s = 0; s < MOST_SAYINGS && sayings >>> s != 0; s++) {
-                    if ((sayings >>> s & 1) != 0) {
-                        others[(i + 1) * STATES + moves.behind(state, m, s)] = NEVER;
-                    }
+        private void weighAnew() {
+            Arrays.fill(others, NOT_REACHED);
+            others[start] = NEVER;
+            order[0] = start;
+            begins[0] = 0;
+            begins[1] = 1;
+            for (int i = 0; i < size; i++) {
+                reachLayer(i);
+            }
+            for (int at = begins[size]; at < begins[size + 1]; at++) {
+                if (moves.isEnd(order[at], tone)) {
+                    others[size * STATES + order[at]] = 0;
+                }
+            }
+            for (int i = size - 1; i >= 0; i--) {
+                for (int at = begins[i]; at < begins[i + 1]; at++) {
+                    others[i * STATES + order[at]] = (byte) fewestFrom(i, order[at]);
                 }
             }
         }
 
-        private byte fewestFrom(int i, int state) {
+        private void reachLayer(int i) {
+            int end = begins[i + 1];
+            for (int at = begins[i]; at < begins[i + 1]; at++) {
+                int n = branchFor(i, order[at]);
+                for (int k = 0; k < n; k++) {
+                    int behind = moves.branchStates[k];
+                    if (others[(i + 1) * STATES + behind] == NOT_REACHED) {
+                        others[(i + 1) * STATES + behind] = NEVER;
+                        order[end] = behind;
+                        end++;
+                    }
+                }
+            }
+            begins[i + 2] = end;
+        }
+
+        private int fewestFrom(int i, int state) {
             int fewest = NEVER;
-            long minutes = minutesFor(i, state);
-            for (int m = 0; m < MOST_MEMBERS; m++) {
-                int sayings = sayingsOf(minutes, m);
-                for (int s = 0; s < MOST_SAYINGS && sayings >>> s != 0; s++) {
-                    if ((sayings >>> s & 1) != 0) {
-                        fewest = Math.min(fewest, othersBy(i, state, m, s));
-                    }
-                }
+            int n = branchFor(i, state);
+            for (int k = 0; k < n; k++) {
+                fewest = Math.min(fewest, othersBy(i, k));
             }
-            return (byte) fewest;
+            return fewest;
         }
 
-        private int othersBy(int i, int state, int m, int s) {
-            int other = strict || told[i] == 10 * m + s ? 0 : 1;
-            return others[(i + 1) * STATES + moves.behind(state, m, s)] + other;
+        /** How many others there are by the k-th minute that was laid out for a place, at fewest. */
+        private int othersBy(int i, int k) {
+            int other = strict || told[i] == moves.branchMinutes[k] ? 0 : 1;
+            return others[(i + 1) * STATES + moves.branchStates[k]] + other;
         }
 
         /** The i-th minute of the row that was weighed as right; NONE, if it has not so many. */
-        int rightMinute(int start, int i) {
-            if (i < 0 || i >= size) {
-                return NONE;
-            }
-            int state = start;
+        int rightMinute(int i) {
             int minute = NONE;
-            for (int k = 0; k <= i; k++) {
-                minute = firstRight(k, state);
-                if (minute == NONE) {
+            int state = start;
+            for (int place = 0; place <= i && i < size; place++) {
+                int k = firstRight(place, state);
+                if (k == NONE) {
                     return NONE;
                 }
-                state = moves.behind(state, minute / 10, minute % 10);
+                minute = moves.branchMinutes[k];
+                state = moves.branchStates[k];
             }
             return minute;
         }
 
         private int firstRight(int i, int state) {
-            long minutes = minutesFor(i, state);
-            for (int m = 0; m < MOST_MEMBERS; m++) {
-                int sayings = sayingsOf(minutes, m);
-                for (int s = 0; s < MOST_SAYINGS; s++) {
-                    if ((sayings >>> s & 1) != 0 && othersBy(i, state, m, s) == others[i * STATES + state]) {
-                        return 10 * m + s;
-                    }
+            int n = branchFor(i, state);
+            for (int k = 0; k < n; k++) {
+                if (othersBy(i, k) == others[i * STATES + state]) {
+                    return k;
                 }
             }
             return NONE;
         }
 
-        /** How many of the first minutes told can stay so that some row goes on to an end. */
-        int longestKept(int start) {
+        /** How many of the first minutes told can stay so that some row that was weighed goes on from them. */
+        int longestKept() {
             int longest = 0;
             int state = start;
             for (int i = 0; i < size && canStay(state, i); i++) {
                 state = behindTold(state, i);
-                if (others[(i + 1) * STATES + state] < NEVER) {
+                if (others[(i + 1) * STATES + state] != NEVER) {
                     longest = i + 1;
                 }
             }
             return longest;
         }
 
-        /** Minutes that stand at a place in some row that was weighed as told. */
+        /** The minutes that stand at a place in some row that was weighed as told. */
         long minutesThatFit(int i) {
             long fit = 0;
             if (i < 0 || i >= size) {
                 return fit;
             }
-            for (int state = 0; state < STATES; state++) {
-                if (others[i * STATES + state] == 0) {
-                    fit |= fitFrom(i, state);
-                }
-            }
-            return fit;
-        }
-
-        private long fitFrom(int i, int state) {
-            long fit = 0;
-            long minutes = minutesFor(i, state);
-            for (int m = 0; m < MOST_MEMBERS; m++) {
-                int sayings = sayingsOf(minutes, m);
-                for (int s = 0; s < MOST_SAYINGS; s++) {
-                    if ((sayings >>> s & 1) != 0 && othersBy(i, state, m, s) == 0) {
-                        fit |= minuteBit(m, s);
+            for (int at = begins[i]; at < begins[i + 1]; at++) {
+                int n = branchFor(i, order[at]);
+                for (int k = 0; k < n; k++) {
+                    if (othersBy(i, k) == 0) {
+                        int minute = moves.branchMinutes[k];
+                        fit |= minuteBit(minute / 10, minute % 10);
                     }
                 }
             }
@@ -1982,13 +2041,28 @@ public final class MinuteBook {
         /* Within how many minutes the first forces an end, if it writes next, or the second one does; NONE: not yet. */
         final int[] firstWrites = new int[STATES];
         final int[] secondWrites = new int[STATES];
+        /* What was played for. */
+        private int version = NONE;
+        private int start;
+        private int tone;
 
         Game(Moves moves, Ways ways) {
             this.moves = moves;
             this.ways = ways;
         }
 
-        int forcedWithin(int start, int tone) {
+        int forcedWithin(int from, int toTone) {
+            if (version != moves.version || start != from || tone != toTone) {
+                version = moves.version;
+                start = from;
+                tone = toTone;
+                play();
+            }
+            return firstWrites[start];
+        }
+
+        private void play() {
+            ways.find(start, NO_TONE, ALL_MINUTES, HIGHEST, 0);
             for (int i = 0; i < ways.size; i++) {
                 int state = ways.stateAt(i);
                 int ended = moves.isEnd(state, tone) ? 0 : NONE;
@@ -1999,14 +2073,13 @@ public final class MinuteBook {
             for (int n = 1; n <= 2 * STATES && more && firstWrites[start] == NONE; n++) {
                 more = settleWithin(n);
             }
-            return firstWrites[start];
         }
 
         private boolean settleWithin(int n) {
             boolean more = false;
             for (int i = 0; i < ways.size; i++) {
                 int state = ways.stateAt(i);
-                if (firstWrites[state] == NONE && someForces(state, n)) {
+                if (firstWrites[state] == NONE && firstForcing(state, n) != NONE) {
                     firstWrites[state] = n;
                     more = true;
                 }
@@ -2018,39 +2091,29 @@ public final class MinuteBook {
             return more;
         }
 
-        private static boolean isEarlier(int within, int n) {
-            return within != NONE && within < n;
-        }
-
-        private boolean someForces(int state, int n) {
-            return firstForcing(state, n) != NONE;
-        }
-
-        /** The first minute by which the first one forces an end within n minutes, this one too. */
+        /** The first minute by which the first one forces an end within n minutes, this one too; NONE. */
         int firstForcing(int state, int n) {
-            long minutes = moves.minutesAt(state);
-            for (int m = 0; m < MOST_MEMBERS; m++) {
-                int sayings = sayingsOf(minutes, m);
-                for (int s = 0; s < MOST_SAYINGS && sayings >>> s != 0; s++) {
-                    if ((sayings >>> s & 1) != 0 && isEarlier(secondWrites[moves.behind(state, m, s)], n)) {
-                        return 10 * m + s;
-                    }
+            int branches = moves.branch(state, moves.minutesAt(state));
+            for (int k = 0; k < branches; k++) {
+                if (isEarlier(secondWrites[moves.branchStates[k]], n)) {
+                    return moves.branchMinutes[k];
                 }
             }
             return NONE;
         }
 
         private boolean allForce(int state, int n) {
-            long minutes = moves.minutesAt(state);
-            for (int m = 0; m < MOST_MEMBERS; m++) {
-                int sayings = sayingsOf(minutes, m);
-                for (int s = 0; s < MOST_SAYINGS && sayings >>> s != 0; s++) {
-                    if ((sayings >>> s & 1) != 0 && !isEarlier(firstWrites[moves.behind(state, m, s)], n)) {
-                        return false;
-                    }
+            int branches = moves.branch(state, moves.minutesAt(state));
+            for (int k = 0; k < branches; k++) {
+                if (!isEarlier(firstWrites[moves.branchStates[k]], n)) {
+                    return false;
                 }
             }
-            return minutes != 0;
+            return branches > 0;
+        }
+
+        private static boolean isEarlier(int within, int n) {
+            return within != NONE && within < n;
         }
     }
 }
