@@ -482,8 +482,10 @@ public final class MinuteBook {
         return ways.find(sitting.state, tone, ALL_MINUTES, HIGHEST, (1 << told.members) - 1);
     }
 
+    /** Brings the search to every state that can be reached. */
     private void exploreAll() {
-        shortestBy(NO_TONE, ALL_MINUTES);
+        moves.heed(sitting.marks);
+        ways.find(sitting.state, NO_TONE, ALL_MINUTES, HIGHEST, 0);
     }
 
     // ---- errata
@@ -1485,7 +1487,9 @@ public final class MinuteBook {
             if (book.wouldFrom == book.wouldEnd) {
                 return true;
             }
-            askOf(state);
+            asked[0] = toneOf(state);
+            asked[1] = heatOf(state);
+            asked[2] = lastInLaw(state);
             asked[3] = who;
             asked[4] = mark;
             asked[5] = saying;
@@ -1496,14 +1500,15 @@ public final class MinuteBook {
             if (book.closesFrom == book.closesEnd) {
                 return heatOf(state) == 0;
             }
-            askOf(state);
+            asked[0] = toneOf(state);
+            asked[1] = heatOf(state);
+            asked[2] = lastInLaw(state);
             return holds(book, book.closesFrom, book.closesEnd);
         }
 
-        private void askOf(int state) {
-            asked[0] = toneOf(state);
-            asked[1] = heatOf(state);
-            asked[2] = lastOf(state) == NOBODY ? LAW_NOBODY : lastOf(state);
+        private static int lastInLaw(int state) {
+            int last = state % LASTS;
+            return last == NOBODY ? LAW_NOBODY : last;
         }
 
         private boolean holds(Book book, int from, int end) {
@@ -1517,36 +1522,38 @@ public final class MinuteBook {
                     stack[top - 1] = 1 - stack[top - 1];
                 } else if (top >= 2) {
                     top--;
-                    stack[top - 1] = joined(op, stack[top - 1], stack[top]);
+                    int a = stack[top - 1];
+                    int b = stack[top];
+                    long v;
+                    switch (op) {
+                        case PLUS:
+                            v = a + b;
+                            break;
+                        case MINUS:
+                            v = a - b;
+                            break;
+                        case TIMES:
+                            v = (long) a * b;
+                            break;
+                        case LIKE:
+                            v = a == b ? 1 : 0;
+                            break;
+                        case LESS:
+                            v = a < b ? 1 : 0;
+                            break;
+                        case MORE:
+                            v = a > b ? 1 : 0;
+                            break;
+                        case AND:
+                            v = a & b;
+                            break;
+                        default:
+                            v = a | b;
+                    }
+                    stack[top - 1] = v > KEPT_WITHIN ? KEPT_WITHIN : v < -KEPT_WITHIN ? -KEPT_WITHIN : (int) v;
                 }
             }
             return stack[0] != 0;
-        }
-
-        private static int joined(int op, int a, int b) {
-            long v;
-            switch (op) {
-                case PLUS:
-                    v = a + b;
-                    break;
-                case MINUS:
-                    v = a - b;
-                    break;
-                case TIMES:
-                    v = (long) a * b;
-                    break;
-                case LIKE:
-                    return a == b ? 1 : 0;
-                case LESS:
-                    return a < b ? 1 : 0;
-                case MORE:
-                    return a > b ? 1 : 0;
-                case AND:
-                    return a & b;
-                default:
-                    return a | b;
-            }
-            return v > KEPT_WITHIN ? KEPT_WITHIN : v < -KEPT_WITHIN ? -KEPT_WITHIN : (int) v;
         }
     }
 
@@ -1700,11 +1707,6 @@ public final class MinuteBook {
             use = allowed;
             heatCap = cap;
             wanted = speakers;
-            goThrough();
-            return length;
-        }
-
-        private void goThrough() {
             makeRoom();
             size = 0;
             found = NONE;
@@ -1720,6 +1722,7 @@ public final class MinuteBook {
                 reached[stateAt(i)] = 0;
             }
             length = found == NONE ? NONE : lengthTo(found);
+            return length;
         }
 
         /** A wanted set takes more nodes: behind the first one, the last speaker is one of the set. */
@@ -1915,17 +1918,13 @@ public final class MinuteBook {
 
         /** How many minutes of the row that is right are others than told; NONE. As told: none may be. */
         int weigh(int from, int toTone, boolean asTold) {
-            if (version != moves.version || start != from || tone != toTone || strict != asTold) {
-                version = moves.version;
-                start = from;
-                tone = toTone;
-                strict = asTold;
-                weighAnew();
+            if (version == moves.version && start == from && tone == toTone && strict == asTold) {
+                return others[start] == NEVER ? NONE : others[start];
             }
-            return others[start] == NEVER ? NONE : others[start];
-        }
-
-        private void weighAnew() {
+            version = moves.version;
+            start = from;
+            tone = toTone;
+            strict = asTold;
             Arrays.fill(others, NOT_REACHED);
             others[start] = NEVER;
             order[0] = start;
@@ -1944,6 +1943,7 @@ public final class MinuteBook {
                     others[i * STATES + order[at]] = (byte) fewestFrom(i, order[at]);
                 }
             }
+            return others[start] == NEVER ? NONE : others[start];
         }
 
         private void reachLayer(int i) {
@@ -2052,16 +2052,12 @@ public final class MinuteBook {
         }
 
         int forcedWithin(int from, int toTone) {
-            if (version != moves.version || start != from || tone != toTone) {
-                version = moves.version;
-                start = from;
-                tone = toTone;
-                play();
+            if (version == moves.version && start == from && tone == toTone) {
+                return firstWrites[start];
             }
-            return firstWrites[start];
-        }
-
-        private void play() {
+            version = moves.version;
+            start = from;
+            tone = toTone;
             ways.find(start, NO_TONE, ALL_MINUTES, HIGHEST, 0);
             for (int i = 0; i < ways.size; i++) {
                 int state = ways.stateAt(i);
@@ -2073,6 +2069,7 @@ public final class MinuteBook {
             for (int n = 1; n <= 2 * STATES && more && firstWrites[start] == NONE; n++) {
                 more = settleWithin(n);
             }
+            return firstWrites[start];
         }
 
         private boolean settleWithin(int n) {

@@ -8,7 +8,7 @@ import java.util.Random;
 
 /** Runs of calls by chance on the class and on PlainBook: each answer must be the same. */
 public final class OracleTests {
-    private static final int RUNS = Integer.getInteger("oracle.runs", 120);
+    private static final int RUNS = Integer.getInteger("oracle.runs", 300);
     private static final int FIRST = Integer.getInteger("oracle.first", 0);
     private static final int CALLS = Integer.getInteger("oracle.calls", 120);
 

@@ -4,9 +4,11 @@ import java.util.ArrayList;
 import java.util.Collections;
 import java.util.Deque;
 import java.util.HashMap;
+import java.util.HashSet;
 import java.util.LinkedHashMap;
 import java.util.List;
 import java.util.Map;
+import java.util.Set;
 import java.util.TreeSet;
 import java.util.function.ToLongFunction;
 import java.util.regex.Matcher;
@@ -948,53 +950,72 @@ final class PlainBook {
 
     // ---- two secretaries, strokes
 
-    record Turn(Mood mood, boolean first, int left) { }
+    record Turn(Mood mood, boolean first) { }
 
-    private boolean forced(Turn turn, int tone, Map<Turn, Boolean> known) {
-        Boolean before = known.get(turn);
-        if (before != null) {
-            return before;
-        }
-        boolean holds = isEnd(turn.mood(), tone);
-        if (!holds && turn.left() > 0) {
-            List<Integer> can = minutes();
-            can.removeIf(v -> !would(turn.mood(), v));
-            boolean some = false;
-            boolean all = true;
-            for (int v : can) {
-                boolean then = forced(new Turn(behind(turn.mood(), v), !turn.first(), turn.left() - 1), tone, known);
-                some |= then;
-                all &= then;
+    private List<Turn> behind(Turn turn) {
+        List<Turn> all = new ArrayList<>();
+        for (int v : minutes()) {
+            if (would(turn.mood(), v)) {
+                all.add(new Turn(behind(turn.mood(), v), !turn.first()));
             }
-            holds = turn.first() ? some : all && !can.isEmpty();
         }
-        known.put(turn, holds);
-        return holds;
+        return all;
     }
 
-    /** Tries up to so many minutes; the books of the tests are small enough for it. */
-    private int forcedWithin(int tone, Map<Turn, Boolean> known) {
-        for (int n = 0; n <= 40; n++) {
-            if (forced(new Turn(sit.mood(), true, n), tone, known)) {
-                return n;
+    private Map<Turn, List<Turn>> turns() {
+        Map<Turn, List<Turn>> all = new LinkedHashMap<>();
+        Deque<Turn> left = new ArrayDeque<>(List.of(new Turn(sit.mood(), true)));
+        while (!left.isEmpty()) {
+            Turn turn = left.pop();
+            if (!all.containsKey(turn)) {
+                all.put(turn, behind(turn));
+                left.addAll(all.get(turn));
             }
         }
-        return NONE;
+        return all;
+    }
+
+    /** Of each number of minutes the turns from which an end is forced within it, till there come no more. */
+    private List<Set<Turn>> forcedTurns(int tone) {
+        Map<Turn, List<Turn>> turns = turns();
+        List<Set<Turn>> rounds = new ArrayList<>();
+        Set<Turn> forced = new HashSet<>();
+        turns.keySet().stream().filter(turn -> isEnd(turn.mood(), tone)).forEach(forced::add);
+        do {
+            rounds.add(forced);
+            Set<Turn> before = forced;
+            forced = new HashSet<>(before);
+            for (Turn turn : turns.keySet()) {
+                List<Turn> next = turns.get(turn);
+                if (!next.isEmpty() && (turn.first() ? next.stream().anyMatch(before::contains) : before.containsAll(next))) {
+                    forced.add(turn);
+                }
+            }
+        } while (forced.size() > rounds.get(rounds.size() - 1).size());
+        return rounds;
+    }
+
+    private int forcedWithin(List<Set<Turn>> rounds) {
+        int n = 0;
+        while (n < rounds.size() && !rounds.get(n).contains(new Turn(sit.mood(), true))) {
+            n++;
+        }
+        return n < rounds.size() ? n : NONE;
     }
 
     int forces(int tone) {
-        return isTone(tone) ? forcedWithin(tone, new HashMap<>()) : -3;
+        return isTone(tone) ? forcedWithin(forcedTurns(tone)) : -3;
     }
 
     int best(int tone) {
         if (!isTone(tone)) {
             return -3;
         }
-        Map<Turn, Boolean> known = new HashMap<>();
-        int n = forcedWithin(tone, known);
+        List<Set<Turn>> rounds = forcedTurns(tone);
+        int n = forcedWithin(rounds);
         if (n > 0) {
             for (int v : minutes()) {
-                if (would(sit.mood(), v) && forced(new Turn(behind(sit.mood(), v), false, n - 1), tone, known)) {
+                if (would(sit.mood(), v) && rounds.get(n - 1).contains(new Turn(behind(sit.mood(), v), false))) {
                     return v;
                 }
             }
