@@ -1395,7 +1395,15 @@ public final class MinuteBook {
                     take(']');
                 }
             } else {
-                readComparison(within);
+                readSum(within);
+                int sign = token;
+                if (sign == '=' || sign == '<' || sign == '>') {
+                    step();
+                    readSum(within);
+                    into.addCode(sign == '=' ? LIKE : sign == '<' ? LESS : MORE);
+                } else {
+                    fail(CANNOT_STAND);
+                }
             }
         }
 
@@ -1406,18 +1414,6 @@ public final class MinuteBook {
             }
             step();
             return true;
-        }
-
-        private void readComparison(int within) {
-            readSum(within);
-            int sign = token;
-            if (sign == '=' || sign == '<' || sign == '>') {
-                step();
-                readSum(within);
-                into.addCode(sign == '=' ? LIKE : sign == '<' ? LESS : MORE);
-            } else {
-                fail(CANNOT_STAND);
-            }
         }
 
         private void readSum(int within) {
