@@ -1803,8 +1803,8 @@ public final class MinuteBook {
     /** Rows of so many minutes, by what was told of each of them, layer by layer of states. */
     private static final class Layers {
         static final int LAYERS = MOST_TOLD + 1;
-        static final byte NOT_REACHED = -1;
-        static final byte NEVER = 100;
+        static final int NOT_REACHED = -1;
+        static final int NEVER = 100;
 
         final Moves moves;
         final int[] told = new int[MOST_TOLD];
@@ -1921,7 +1921,7 @@ public final class MinuteBook {
             start = from;
             tone = toTone;
             strict = asTold;
-            Arrays.fill(others, NOT_REACHED);
+            Arrays.fill(others, (byte) NOT_REACHED);
             others[start] = NEVER;
             order[0] = start;
             begins[0] = 0;

@@ -96,6 +96,7 @@ public final class FaceTests {
         for (Field field : MinuteBook.class.getDeclaredFields()) {
             CHECK.holds("field " + field.getName(), !isSeen(field) || field.getName().equals("NONE"));
         }
+        staticFields(MinuteBook.class);
         CHECK.holds("public final class", MinuteBook.class.getModifiers() == (Modifier.PUBLIC | Modifier.FINAL));
         CHECK.due("constructors", MinuteBook.class.getDeclaredConstructors().length, 1);
         CHECK.due("public constructors", MinuteBook.class.getConstructors().length, 1);
@@ -103,8 +104,20 @@ public final class FaceTests {
         for (Class<?> inside : MinuteBook.class.getDeclaredClasses()) {
             CHECK.holds(inside + " is static", Modifier.isStatic(inside.getModifiers()));
             CHECK.holds(inside + " is not public", !Modifier.isPublic(inside.getModifiers()));
+            staticFields(inside);
             long fields = List.of(inside.getDeclaredFields()).stream().filter(f -> !Modifier.isStatic(f.getModifiers())).count();
             CHECK.holds(inside + " has some twenty fields", fields <= 20);
+        }
+    }
+
+    /** Static fields are final: constants of some types, or arrays written out. */
+    private static void staticFields(Class<?> type) {
+        for (Field field : type.getDeclaredFields()) {
+            if (Modifier.isStatic(field.getModifiers())) {
+                CHECK.holds(field + " is final", Modifier.isFinal(field.getModifiers()));
+                CHECK.holds(field + " has a type that may be", List.of(int.class, long.class, boolean.class, char.class,
+                    String.class, int[].class, long[].class, char[].class, byte[].class).contains(field.getType()));
+            }
         }
     }
 
