@@ -1649,15 +1649,17 @@ public final class MinuteBook {
         /** Lays out the minutes of a set and the states behind them, the first minute first: how many. */
         int branch(int state, long set) {
             int n = 0;
-            int mood = state / LASTS;
             for (int m = 0; m < MOST_MEMBERS; m++) {
-                int sayings = sayingsOf(set, m);
-                for (int s = 0; s < MOST_SAYINGS && sayings >>> s != 0; s++) {
-                    if ((sayings >>> s & 1) != 0) {
-                        branchMinutes[n] = 10 * m + s;
-                        branchStates[n] = turned[s * MOODS + mood] + m;
+                int minute = 10 * m;
+                int at = state / LASTS;
+                for (int sayings = sayingsOf(set, m); sayings != 0; sayings >>= 1) {
+                    if ((sayings & 1) != 0) {
+                        branchMinutes[n] = minute;
+                        branchStates[n] = turned[at] + m;
                         n++;
                     }
+                    minute++;
+                    at += MOODS;
                 }
             }
             return n;
@@ -1731,7 +1733,8 @@ public final class MinuteBook {
         }
 
         private void reach(int state, int spoken, int from) {
-            if ((reached[state] >>> spoken & 1) == 0 && size < queue.length) {
+            boolean isCool = heatCap == HIGHEST || heatOf(state) <= heatCap;
+            if ((reached[state] >>> spoken & 1) == 0 && isCool && size < queue.length) {
                 reached[state] |= 1L << spoken;
                 queue[size] = state | spoken << STATE_BITS | from << NODE_BITS;
                 size++;
@@ -1741,11 +1744,15 @@ public final class MinuteBook {
         private void spread(int from) {
             int state = stateAt(from);
             int spoken = spokenAt(from);
-            int n = moves.branch(state, moves.minutesAt(state) & use);
-            for (int k = 0; k < n; k++) {
-                int behind = moves.branchStates[k];
-                if (heatCap == HIGHEST || heatOf(behind) <= heatCap) {
-                    reach(behind, wanted == 0 ? 0 : spoken | 1 << lastOf(behind), from);
+            long minutes = moves.minutesAt(state) & use;
+            for (int m = 0; m < MOST_MEMBERS; m++) {
+                int spokenThen = wanted == 0 ? 0 : spoken | 1 << m;
+                int at = state / LASTS;
+                for (int sayings = sayingsOf(minutes, m); sayings != 0; sayings >>= 1) {
+                    if ((sayings & 1) != 0) {
+                        reach(moves.turned[at] + m, spokenThen, from);
+                    }
+                    at += MOODS;
                 }
             }
         }
@@ -2037,6 +2044,9 @@ public final class MinuteBook {
         /* Within how many minutes the first forces an end, if it writes next, or the second one does; NONE: not yet. */
         final int[] firstWrites = new int[STATES];
         final int[] secondWrites = new int[STATES];
+        /* Moods some of whose states were settled by the last number of minutes: only what leads there can follow. */
+        final int[] fresh = new int[MOODS];
+        final int[] touched = new int[MOODS];
         /* What was played for. */
         private int version = NONE;
         private int start;
@@ -2055,29 +2065,46 @@ public final class MinuteBook {
             start = from;
             tone = toTone;
             ways.find(start, NO_TONE, ALL_MINUTES, HIGHEST, 0);
+            Arrays.fill(fresh, 0);
             for (int i = 0; i < ways.size; i++) {
                 int state = ways.stateAt(i);
-                int ended = moves.isEnd(state, tone) ? 0 : NONE;
-                firstWrites[state] = ended;
-                secondWrites[state] = ended;
+                boolean ended = moves.isEnd(state, tone);
+                firstWrites[state] = ended ? 0 : NONE;
+                secondWrites[state] = ended ? 0 : NONE;
+                fresh[state / LASTS] |= ended ? 1 : 0;
             }
             boolean more = true;
             for (int n = 1; n <= 2 * STATES && more && firstWrites[start] == NONE; n++) {
+                turnToFresh();
                 more = settleWithin(n);
             }
             return firstWrites[start];
+        }
+
+        /** Finds the moods from which some saying leads to a fresh one; none is fresh then. */
+        private void turnToFresh() {
+            for (int mood = 0; mood < MOODS; mood++) {
+                touched[mood] = 0;
+                for (int s = 0; s < moves.book.sayings; s++) {
+                    touched[mood] |= fresh[moves.turned[s * MOODS + mood] / LASTS];
+                }
+            }
+            Arrays.fill(fresh, 0);
         }
 
         private boolean settleWithin(int n) {
             boolean more = false;
             for (int i = 0; i < ways.size; i++) {
                 int state = ways.stateAt(i);
-                if (firstWrites[state] == NONE && firstForcing(state, n) != NONE) {
+                int mood = state / LASTS;
+                if (touched[mood] != 0 && firstWrites[state] == NONE && firstForcing(state, n) != NONE) {
                     firstWrites[state] = n;
+                    fresh[mood] = 1;
                     more = true;
                 }
-                if (secondWrites[state] == NONE && allForce(state, n)) {
+                if (touched[mood] != 0 && secondWrites[state] == NONE && allForce(state, n)) {
                     secondWrites[state] = n;
+                    fresh[mood] = 1;
                     more = true;
                 }
             }
