@@ -248,6 +248,9 @@ public final class PromiseTests {
         right(START + "would:1=1;closes:[not(1)<2]or tone>heat;", 3);
         right(START + "member;".repeat(6) + "saying;".repeat(8), 15);
         fault("booktone 1 heat 1;", 2, 0);
+        fault(START + "zany az;", 2, 19);
+        fault(";".repeat(900), 2, 0);
+        fault(START + "saying" + " up 1".repeat(170) + "mark", 2, 875);
         fault(START + "saying up 1 1;", 2, 31);
         due("a text of 900 bytes", Check.read(new MinuteBook(), START + "stroke 10;".repeat(88) + " "), 89);
     }
@@ -394,6 +397,9 @@ public final class PromiseTests {
         x.mark(1, 0);
         due("corridor, marked 0", x.open(), 1);
         due("no sayings", told(START + "member;").open(), 0);
+        MinuteBook y = told("book tone 9 heat 9;" + "member;".repeat(6) + "saying;saying up 1;would : saying = 0 and tone = 9 and heat = 9;");
+        y.say(5, 0);
+        due("member 5 spoke last at tone 9, heat 9", y.open(), 6);
         due("48", told(START + "member;".repeat(6) + "saying;".repeat(8)).open(), 48);
     }
 
@@ -516,6 +522,9 @@ public final class PromiseTests {
         x.numbers(1, 3, 1);
         x.write(1, 0, 1L << 32);
         judged(x, 1, 0, 1, 3, 0);
+        MinuteBook y = told(START + "member;saying;would : 1 = 2;");
+        Check.lay(y, 0, 104);
+        judged(y, 0, -1, 0, 11, 0);
         due("nothing is done", x.count(7), 0);
         due("marks stay", x.count(6), 5);
         due("tone stays", x.count(0), 0);
@@ -701,6 +710,9 @@ public final class PromiseTests {
         due("full(2)", x.full(2), 5);
         due("full(10)", x.full(10), -3);
         due("full(-2)", x.full(-2), -3);
+        due("shortest(-1)", x.shortest(-1), 3);
+        due("full(-1) behind it", x.full(-1), 4);
+        due("shortest(-1) behind that", x.shortest(-1), 3);
         x.say(0, 0);
         due("who spoke ahead of now does not count", x.full(1), -1);
         due("full(2) then", x.full(2), 4);
@@ -759,6 +771,10 @@ public final class PromiseTests {
         due("one now: its heat", y.calmest(-1, 0), 6);
         due("one now: no minutes", y.calmest(2, 1), 0);
         due("one now: none", y.calmest(2, 10), -1);
+        MinuteBook z = told("book tone 2 heat 9;member;saying cool 9;");
+        due("heat 9 now", z.calmest(-1, 0), 9);
+        due("its minute", z.calmest(-1, 10), 0);
+        due("heat 9 on the way", told("book tone 2 heat 0;member;saying warm 9 up 1;closes : tone = 3;").calmest(3, 0), 9);
     }
 
     private static void promise25() {
@@ -802,6 +818,12 @@ public final class PromiseTests {
         due("the first", x.baulk(0), 0);
         Check.lay(x, 0, 11, 0, 0, 0, 0, 11, 0, 11, 10);
         due("at tone 5", x.baulk(0), 7);
+        MinuteBook y = told("book tone 0 heat 3;member;saying down 1;saying up 5;would : saying = 1 or tone < 5;");
+        Check.lay(y, 0, 1, 0);
+        due("behind saying 1", y.baulk(0), 1);
+        Check.lay(x, 0, 0, 0, 0, 0, 0, 0, 0, 0, 0, 0, 0, 11);
+        due("the last of 12", x.baulk(0), 11);
+        Check.lay(x, 0, 11, 0, 0, 0, 0, 11, 0, 11, 10);
         x.mark(1, 9);
         due("by another mark", x.baulk(0), 8);
         x.mark(1, 0);
@@ -824,6 +846,10 @@ public final class PromiseTests {
         due("tone 0", x.errata(0, 0), 3);
         Check.lay(x, 0, 0, 0, 0, 0, 0, 11, 11, 11);
         due("two change places", x.errata(0, 5), 2);
+        x.say(0, 0);
+        due("behind an up: three change", x.errata(0, 5), 3);
+        x.undo(1);
+        due("as it was", x.errata(0, 5), 2);
     }
 
     private static void promise28() {
@@ -963,6 +989,14 @@ public final class PromiseTests {
         due("the other one has to", told("book tone 4 heat 0;member;saying up 1;").forces(6), 2);
         due("it ends", told("book tone 4 heat 1;member;saying up 1;would : tone < 5;closes : tone = 6;").forces(-1), -1);
         due("it ends at once", told("book tone 4 heat 1;").forces(-1), -1);
+        due("the other one has no minute", told("book tone 2 heat 1;member;saying up 1;saying up 2;saying up 3;would : "
+            + "tone = 2 and [saying = 0 or saying = 2] or tone = 3 and saying < 2 or tone = 4 and saying = 1;closes : tone = 6;").forces(-1), -1);
+        x.mark(1, 0);
+        due("by another mark", x.forces(-1), -1);
+        x.mark(1, 9);
+        due("by a third mark", x.forces(-1), 5);
+        x.say(1, 1);
+        due("behind a minute", x.forces(-1), 3);
     }
 
     private static void promise36() {
@@ -1024,6 +1058,7 @@ public final class PromiseTests {
         due("certain: the one with one minute", told(stairs + "stroke 10;").likeliest(), 4);
         due("none and one are alike", told("book tone 3 heat 0;member;saying down 1;stroke 9;").likeliest(), 2);
         due("there is none", told("book tone 3 heat 1;member;saying up 1;").likeliest(), -1);
+        due("tone 9", told("book tone 8 heat 1;member;saying up 1 cool 1;").likeliest(), 9);
         due("above 16 minutes, too",
             told("book tone 0 heat 9;member;saying cool 1;saying up 1;closes : heat = 0 and tone > 7;stroke 1;").likeliest(), 8);
     }
