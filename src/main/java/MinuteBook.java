@@ -30,6 +30,8 @@ public final class MinuteBook {
     private static final int MOST_ROWS = 10;
     private static final int MOST_TIMES = 40;
     private static final int MOST_STRUCK = 16;
+    /* More than any search can find. */
+    private static final int ENDLESS = 1000000;
     private static final int CALM_LEAST = 10;
     private static final int CALM_MOST = 29;
 
@@ -461,7 +463,7 @@ public final class MinuteBook {
             for (int s = 0; s < told.sayings; s++) {
                 int length = shortestBy(NONE, ~sayingBits(s));
                 if (length == NONE) {
-                    length = Integer.MAX_VALUE;
+                    length = ENDLESS;
                 }
                 if (length > longest) {
                     longest = length;
@@ -693,7 +695,7 @@ public final class MinuteBook {
     public int likeliest() {
         exploreAll();
         int found = NONE;
-        int least = Integer.MAX_VALUE;
+        int least = ENDLESS;
         for (int tone = 0; tone <= HIGHEST; tone++) {
             int length = ways.firstLength(tone);
             if (length != NONE && strokesThatCount(length) < least) {
@@ -1709,7 +1711,7 @@ public final class MinuteBook {
             size = 0;
             found = NONE;
             reach(start, 0, 0);
-            for (int i = 0; i < size && found == NONE; i++) {
+            for (int i = 0; i < queue.length && i < size && found == NONE; i++) {
                 if (spokenAt(i) == wanted && moves.isEnd(stateAt(i), tone)) {
                     found = i;
                 } else {

@@ -13,6 +13,7 @@ public final class EdgeTests {
         new TrayEdges(edges).run();
         new ImageEdges(edges).run();
         new RefusedEdges(edges).run();
+        new NowEdges(edges).run();
         edges.end();
     }
 }

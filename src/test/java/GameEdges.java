@@ -32,6 +32,8 @@ final class GameEdges {
         edges.due("then the other one", Check.told(STAIRS).forces(6), 2);
         edges.due("the first one has none", Check.told(STAIRS + "would : 1 = 2;").forces(5), -1);
         edges.due("the other one has none", Check.told(STAIRS + "would : tone = 4;").forces(6), -1);
+        edges.due("the other one has none, though there is an end some time", Check.told("book tone 4 heat 0;member;saying up 1;saying up 3;"
+            + "would : tone = 4 or tone = 7;").forces(8), -1);
         edges.due("but an end is there by then", Check.told(STAIRS + "would : tone = 4;").forces(5), 1);
         edges.due("the other one would baulk at what hinders", Check.told(TWO_WAYS + "would : saying = 0 or tone < 5;").forces(6), 2);
         edges.due("the first one would baulk", Check.told(TWO_WAYS + "would : saying = 1 or tone > 4;").forces(5), -1);
@@ -127,6 +129,8 @@ final class GameEdges {
         edges.due("tone 9 alone", Check.told("book tone 9 heat 0;").power(), 512);
         edges.due("none", Check.told("book tone 9 heat 1;").power(), 0);
         edges.due("the long way", Check.told(MinuteEdges.LONG).power(), 512);
+        edges.due("the last of 700 states", Check.told("book tone 0 heat 0;" + "member;".repeat(6)
+            + "saying warm 1;saying up 1;would : saying = 0 or heat = 9;closes : tone = 9 and heat = 9;").power(), 512);
         edges.due("all", Check.told("book tone 0 heat 0;member;saying up 1;").power(), 1023);
     }
 

@@ -311,6 +311,12 @@ final class MinuteEdges {
         x.say(0, 0);
         edges.due("none", x.tones(), 0);
         edges.due("now, too", Check.told("book tone 9 heat 0;").tones(), 512);
+        edges.due("the last of 700 states", Check.told("book tone 0 heat 0;" + "member;".repeat(6)
+            + "saying warm 1;saying up 1;closes : tone = 9 and heat = 9 and last = 5;").tones(), 512);
+        for (int tone = 0; tone <= 9; tone++) {
+            edges.due("some time behind an end with " + tone, Check.told("book tone " + tone
+                + " heat 0;member;saying up 9;saying down 9;").tones(), 513 | 1 << tone);
+        }
         edges.due("at the end of the long way", Check.told(LONG).tones(), 512);
         edges.due("a new object", new MinuteBook().tones(), 1);
         edges.due("by member 5 at tone 9 and heat 9", Check.told("book tone 9 heat 9;" + "member;".repeat(6)

@@ -60,6 +60,12 @@ final class TextEdges {
         fault(text.substring(0, 899), 2, 899);
         fault(text.substring(0, 899) + ",", 1, 899);
         fault(text.substring(0, 899) + "=", 2, 899);
+        for (char sign : SIGNS.toCharArray()) {
+            fault(String.valueOf(sign).repeat(900), 2, 0);
+            fault(START + String.valueOf(sign).repeat(881), 2, 19);
+        }
+        fault("m".repeat(900), 2, 0);
+        fault("1".repeat(900), 1, 0);
         MinuteBook x = new MinuteBook();
         Check.feed(x, text);
         edges.due("20 bytes more", x.feed(0x20202020, 0x20202020, 0x20202020, 0x20202020, 0x20202020), -5);

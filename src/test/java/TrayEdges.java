@@ -11,6 +11,12 @@ final class TrayEdges {
     /** Two members, three sayings, no laws. */
     private static final String PLAIN = "book tone 5 heat 2;member mark 3;member;saying up 1;saying cool 1;saying down 2 warm 1;";
     private static final String CORRIDOR = MinuteEdges.CORRIDOR;
+    private static final String WIDE = "book tone 0 heat 0;" + "member;".repeat(6) + "saying;".repeat(8);
+    /** Six members speak in their order, each by a saying of its own; the last one ends it. */
+    private static final String ROUND = "book tone 0 heat 1;member;member;member;member;member;member;saying;saying;saying;saying;saying;saying;saying;saying;"
+        + "closes : last = 5;would : [who = last + 1 or last = 9 and who = 0] and saying = ";
+    private static final String[] ROUNDS = {ROUND + "who + 2;", ROUND + "5 - who;"};
+    private static final long[][] IN_THEIR_ORDER = {{2, 13, 24, 35, 46, 57}, {5, 14, 23, 32, 41, 50}};
 
     private final Edges edges;
 
@@ -88,6 +94,73 @@ final class TrayEdges {
                 x.write(3, place, v);
                 edges.due(call + " with " + v, by.applyAsLong(3), -3);
             }
+        }
+    }
+
+    /** All 48 minutes of six members and eight sayings are taken, at the first place and at the last one, and no others. */
+    private void wideValues(String call, java.util.function.ToLongBiFunction<MinuteBook, Integer> by, int most, boolean lost) {
+        MinuteBook x = Check.told(WIDE);
+        for (int place = 0; place < most; place += most - 1) {
+            x.numbers(1, 1, most);
+            for (long v = -2; v <= 69; v++) {
+                boolean fits = v >= 0 && v < 60 && v % 10 < 8 || lost && v == -1;
+                x.write(1, place, v);
+                edges.due(call + " with " + v + " is refused by", by.applyAsLong(x, 1) == -3 ? 1 : 0, fits ? 0 : 1);
+            }
+        }
+    }
+
+    private void baulkInTheirOrder(String text, long[] row) {
+        MinuteBook x = Check.told(text);
+        for (int i = 0; i < 6; i++) {
+            Check.lay(x, 0, Arrays.copyOf(row, i + 1));
+            edges.due("in their order, " + i, x.baulk(0), -1);
+            for (long v : new long[] {row[i] + (row[i] % 10 < 7 ? 1 : -1), row[(i + 1) % 6], row[(i + 5) % 6]}) {
+                Check.lay(x, 0, with(row.clone(), i, v));
+                edges.due(v + " at " + i, x.baulk(0), i);
+            }
+        }
+    }
+
+    private void errataInTheirOrder(String text, long[] row) {
+        MinuteBook x = Check.told(text);
+        for (int i = 0; i < 6; i++) {
+            Check.lay(x, 0, with(row.clone(), i, row[i] + (row[i] % 10 < 7 ? 1 : -1)));
+            edges.due("another one at " + i, x.errata(0, -1), 1);
+            edges.due("the right one at " + i, x.right(0, 0, i), row[i]);
+            edges.due("those ahead can stay", x.back(0, -1), i);
+            Check.lay(x, 0, with(many(6, row[5]), i, row[i]));
+            edges.due("one alone is right at " + i, x.errata(0, -1), i == 5 ? 5 : 4);
+        }
+        Check.lay(x, 0, row);
+        edges.due("all can stay", x.back(0, -1), 6);
+    }
+
+    private void lostInTheirOrder(String text, long[] row) {
+        MinuteBook x = Check.told(text);
+        Check.lay(x, 0, many(6, -1));
+        for (int i = 0; i < 6; i++) {
+            edges.due("in their order, " + i, x.sureMinute(0, i), row[i]);
+            edges.due("who speaks at " + i, x.speakers(0, i), 1 << i);
+        }
+        for (int i = 0; i < 6; i++) {
+            Check.lay(x, 0, with(many(6, -1), i, row[i]));
+            edges.due("one told, " + i, x.lost(0), 1);
+            Check.lay(x, 0, with(many(6, -1), i, row[(i + 1) % 6]));
+            edges.due("another one told at " + i, x.lost(0), 0);
+        }
+    }
+
+    /** Each member keeps the mark that is its number in the one row, but the first one, which may have any above 6. */
+    private void keptInTheirOrder(String text, long[] row) {
+        MinuteBook x = Check.told(text.replace("would : ", "would : [mark = who and who > 0 or who = 0 and mark > 6] and "));
+        Check.lay(x, 0, row);
+        for (int m = 0; m < 6; m++) {
+            edges.due("of " + m + " in their order", x.kept(0, m), m == 0 ? 0b1110000000 : 1 << m);
+        }
+        Check.lay(x, 0, row[0], row[2], row[1]);
+        for (int m = 0; m < 6; m++) {
+            edges.due("of " + m + " out of their order", x.kept(0, m), m == 0 ? 0b1110000000 : m < 3 ? 0 : 1023);
         }
     }
 
@@ -207,6 +280,9 @@ final class TrayEdges {
         edges.due("the twelfth", x.baulk(0), 11);
         Check.lay(x, 0, 0, 1, 10, 1);
         edges.due("the first of some", x.baulk(0), 1);
+        for (int n = 0; n < 2; n++) {
+            baulkInTheirOrder(ROUNDS[n], IN_THEIR_ORDER[n]);
+        }
         edges.says("NONE: nobody;");
         Check.lay(x, 0, many(12, 0));
         edges.due("nobody", x.baulk(0), -1);
@@ -217,6 +293,7 @@ final class TrayEdges {
         noTray("baulk", y::baulk);
         sizes("baulk", y, y::baulk, 12);
         values("baulk", y, y::baulk, 12, false);
+        wideValues("baulk", MinuteBook::baulk, 12, false);
     }
 
     /** The codes of errata(), right() and back(), in their order. */
@@ -249,6 +326,9 @@ final class TrayEdges {
         edges.due("two", x.errata(0, -1), 2);
         Check.lay(x, 0, many(12, 10));
         edges.due("all twelve", x.errata(0, 9), 12);
+        for (int n = 0; n < 2; n++) {
+            errataInTheirOrder(ROUNDS[n], IN_THEIR_ORDER[n]);
+        }
         edges.says("NONE: there is no such row;");
         Check.lay(x, 0, 11, 11);
         edges.due("too few", x.errata(0, -1), -1);
@@ -257,6 +337,7 @@ final class TrayEdges {
         edges.says("-2, -6, -4, -3 likewise; -3: also the TONE.");
         MinuteBook y = Check.told(PLAIN);
         errataRefusals("errata", y::errata, y);
+        wideValues("errata", (z, tray) -> z.errata(tray, -1), 12, false);
     }
 
     private void promise28() {
@@ -275,6 +356,7 @@ final class TrayEdges {
         edges.says("as errata(); -3: also i is below 0.");
         MinuteBook y = Check.told(PLAIN);
         errataRefusals("right", (tray, tone) -> y.right(tray, tone, 0), y);
+        wideValues("right", (z, tray) -> z.right(tray, -1, 0), 12, false);
         MinuteBook z = Check.told(PLAIN);
         errataRefusals("right of no such place", (tray, tone) -> z.right(tray, tone, 99), z);
         for (int i : new int[] {-1, LEAST}) {
@@ -306,6 +388,7 @@ final class TrayEdges {
         edges.due("too few", x.back(0, -1), -1);
         MinuteBook y = Check.told(PLAIN);
         errataRefusals("back", y::back, y);
+        wideValues("back", (z, tray) -> z.back(tray, -1), 12, false);
     }
 
     private void promise30() {
@@ -318,7 +401,7 @@ final class TrayEdges {
         edges.due("none lost", x.lost(0), 1);
         Check.lay(x, 0, 11, 11);
         edges.due("no rows", x.lost(0), 0);
-        MinuteBook wide = Check.told("book tone 0 heat 0;" + "member;".repeat(6) + "saying;".repeat(8));
+        MinuteBook wide = Check.told(WIDE);
         Check.lay(wide, 0, many(10, -1));
         edges.due("48 to the 10th", wide.lost(0), 64925062108545024L);
         edges.says("-2: the TRAY; -6; -4: not 1 to 10 numbers; -3: one is no MINUTE, nor NONE.");
@@ -326,6 +409,7 @@ final class TrayEdges {
         noTray("lost", y::lost);
         sizes("lost", y, y::lost, 10);
         values("lost", y, y::lost, 10, true);
+        wideValues("lost", MinuteBook::lost, 10, true);
     }
 
     private void placeRefusals(String call, java.util.function.IntBinaryOperator by, MinuteBook x) {
@@ -368,9 +452,17 @@ final class TrayEdges {
         Check.lay(last, 0, many(10, -1));
         edges.due("the last of ten", last.sureMinute(0, 9), 57);
         edges.due("the ninth of ten", last.sureMinute(0, 8), -1);
+        for (int n = 0; n < 2; n++) {
+            lostInTheirOrder(ROUNDS[n], IN_THEIR_ORDER[n]);
+        }
+        MinuteBook two = Check.told("book tone 0 heat 1;member;saying up 1;saying;saying;would : saying = 0 and tone = 0 or saying = 2 and tone = 1;closes : tone = 1;");
+        Check.lay(two, 0, -1, -1);
+        edges.due("what can be at the second place alone", two.sureMinute(0, 0), 0);
+        edges.due("the second place", two.sureMinute(0, 1), 2);
         edges.says("As lost(); -7: no such place.");
         MinuteBook y = Check.told(PLAIN);
         placeRefusals("sureMinute", y::sureMinute, y);
+        wideValues("sureMinute", (z, tray) -> z.sureMinute(tray, 0), 10, true);
         Check.lay(x, 0, -1, 0, 0, -1);
         edges.due("no rows, no such place", x.sureMinute(0, 4), -7);
     }
@@ -388,13 +480,14 @@ final class TrayEdges {
         edges.due("one alone", x.speakers(0, 2), 2);
         Check.lay(x, 0, -1, 0, 0, -1);
         edges.due("no rows", x.speakers(0, 0), 0);
-        MinuteBook wide = Check.told("book tone 0 heat 0;" + "member;".repeat(6) + "saying;".repeat(8));
+        MinuteBook wide = Check.told(WIDE);
         Check.lay(wide, 0, many(10, -1));
         edges.due("all, the first of ten", wide.speakers(0, 0), 63);
         edges.due("all, the last of ten", wide.speakers(0, 9), 63);
         edges.says("As lost(); -7: no such place.");
         MinuteBook y = Check.told(PLAIN);
         placeRefusals("speakers", y::speakers, y);
+        wideValues("speakers", (z, tray) -> z.speakers(tray, 9), 10, true);
         Check.lay(x, 0, -1, 0, 0, -1);
         edges.due("no rows, no such place", x.speakers(0, 4), -7);
     }
@@ -429,9 +522,13 @@ final class TrayEdges {
         edges.due("9 alone", x.kept(0, 1), 512);
         Check.lay(x, 0, 0, 0, 0, 0, 0, 0, 0, 0, 0, 11);
         edges.due("none", x.kept(0, 1), 0);
+        for (int n = 0; n < 2; n++) {
+            keptInTheirOrder(ROUNDS[n], IN_THEIR_ORDER[n]);
+        }
         edges.says("-2: the TRAY, the MEMBER; -6; -4: not 1 to 12 numbers; -3: one is no MINUTE.");
         MinuteBook y = Check.told(PLAIN);
         keptRefusals("kept", y::kept, y);
+        wideValues("kept", (z, tray) -> z.kept(tray, 5), 12, false);
     }
 
     private void promise34() {
@@ -453,8 +550,14 @@ final class TrayEdges {
         edges.due("now, not behind the tray", now.attempt(0, 0), 0);
         now.say(0, 0);
         edges.due("now that tone is 5", now.attempt(0, 0), 1);
-        edges.due("saying 7", Check.told("book tone 0 heat 1;member;").attempt(0, 0), -6);
+        MinuteBook one = Check.told("book tone 0 heat 1;member;saying;would : mark > saying;");
+        Check.lay(one, 0, 0);
+        edges.due("there is no saying 1", one.attempt(0, 0), 0);
         edges.says("NONE: there are no SAYINGS, no such MARKS; as kept().");
+        MinuteBook mute = Check.told("book tone 0 heat 1;member;");
+        edges.due("no sayings, no tray", mute.attempt(0, 0), -6);
+        Check.lay(mute, 0, 0);
+        edges.due("no sayings: 0 is no minute", mute.attempt(0, 0), -3);
         MinuteBook none = Check.told("book tone 0 heat 1;member;saying;saying;would : saying = 0 and mark < 5;");
         Check.lay(none, 0, 1);
         edges.due("no such marks", none.attempt(0, 0), -1);
@@ -462,6 +565,7 @@ final class TrayEdges {
         edges.due("one half", none.attempt(0, 0), 0);
         MinuteBook y = Check.told(PLAIN);
         keptRefusals("attempt", y::attempt, y);
+        wideValues("attempt", (z, tray) -> z.attempt(tray, 0), 12, false);
     }
 
     private void promise40() {
