@@ -1654,7 +1654,7 @@ public final class MinuteBook {
             for (int m = 0; m < MOST_MEMBERS; m++) {
                 int minute = 10 * m;
                 int at = state / LASTS;
-                for (int sayings = sayingsOf(set, m); sayings != 0; sayings >>= 1) {
+                for (int sayings = sayingsOf(set, m); sayings != 0; sayings >>>= 1) {
                     if ((sayings & 1) != 0) {
                         branchMinutes[n] = minute;
                         branchStates[n] = turned[at] + m;
@@ -1750,7 +1750,7 @@ public final class MinuteBook {
             for (int m = 0; m < MOST_MEMBERS; m++) {
                 int spokenThen = wanted == 0 ? 0 : spoken | 1 << m;
                 int at = state / LASTS;
-                for (int sayings = sayingsOf(minutes, m); sayings != 0; sayings >>= 1) {
+                for (int sayings = sayingsOf(minutes, m); sayings != 0; sayings >>>= 1) {
                     if ((sayings & 1) != 0) {
                         reach(moves.turned[at] + m, spokenThen, from);
                     }

@@ -143,6 +143,8 @@ public final class FaceTests {
             CHECK.holds(imports.group(), imports.group().equals("import java.util.Arrays;"));
         }
         CHECK.holds("signs 1 to 127", source.chars().allMatch(c -> c == '\n' || c >= 32 && c < 127));
+        // A loop that shifts a negative number so would not end.
+        CHECK.holds("no >>=", !Pattern.compile("(?<!>)>>=").matcher(code).find());
         Matcher method = Pattern.compile("(?m)^( +)[\\w\\[\\]<> ]+\\(([^;{}]*)\\) \\{\n((?:\\1 .*\n|\n)*)").matcher(code);
         while (method.find()) {
             if (method.group(1).length() <= 8) {
